@@ -21,14 +21,14 @@ public final class ModelTests {
         Due due = new Due();
         int[] records = {2, 3, 5, 8, 12, 24};
         int[] numbers = {4, 6, 9, 14, 30, 60};
-        for (int seed = 0; seed < 720 && due.wrong() == 0; seed++) {
+        for (int seed = 0; seed < 240 && due.wrong() == 0; seed++) {
             ModelTests run = new ModelTests(due, seed, records[seed % 6], numbers[seed / 6 % 6]);
             for (int i = 0; i < CALLS && due.wrong() == 0; i++) {
                 due.about("run " + seed + ", call " + i);
                 run.call();
             }
         }
-        for (int seed = 0; seed < 12 && due.wrong() == 0; seed++) {
+        for (int seed = 0; seed < 6 && due.wrong() == 0; seed++) {
             runOfMany(due, seed);
         }
         due.close();
