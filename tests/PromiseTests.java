@@ -13,6 +13,7 @@ public final class PromiseTests {
         promise1NewObject();
         promise1ObjectsAreApart();
         promise2Record();
+        promise2AllRecords();
         promise3Drop();
         promise3DropLeavesWhatIsKept();
         promise4Put();
@@ -26,6 +27,7 @@ public final class PromiseTests {
         promise9TextOfTwoBytes();
         promise9TextThatChangesNothing();
         promise9TextStandsInOrder();
+        promise9TextJoinsFamilies();
         promise10Measure();
         promise11Order();
         promise12Frequency();
@@ -189,6 +191,45 @@ public final class PromiseTests {
         is("drop(59)", x.drop(59), true);
         is("dropped ones count, too", x.record(), NONE);
         is("count(0)", x.count(0), 58);
+    }
+
+    private static void promise2AllRecords() {
+        DUE.about("promise 2, all records there can be");
+        PairSieve x = new PairSieve();
+        for (int r = 0; r < 60; r++) {
+            add(x, 7, 1000 + r);
+        }
+        is("drop(60)", x.drop(60), false);
+        is("put(60, 1)", x.put(60, 1), false);
+        is("take(60, 7)", x.take(60, 7), false);
+        is("text(60, 1)", x.text(60, 1), NONE);
+        is("about(60, 4)", x.about(60, 4), NONE);
+        is("at(60, 0)", x.at(60, 0), NONE);
+        is("like(59, 60, 0)", x.like(59, 60, 0), NONE);
+        is("why(60, 59)", x.why(60, 59), NONE);
+        is("core(60)", x.core(60), NONE);
+        is("chain(60, 60)", x.chain(60, 60), NONE);
+        is("next(59, 60)", x.next(59, 60), NONE);
+        is("order()", x.order(), 61);
+        is("at(59, 0)", x.at(59, 0), 1059);
+        is("pairs()", x.pairs(), 0);
+        is("top(100)", x.top(100), 100);
+        kept("like ones by their records", x, allWithSharedOne());
+        is("count(8)", x.count(8), 60);
+        x.measure(0, 1, 1);
+        is("count(8)", x.count(8), 1);
+        is("chain(0, 59)", x.chain(0, 59), 1);
+        is("core(59)", x.core(59), -2);
+        is("pairs()", x.pairs(), 1770);
+    }
+
+    /** The first hundred twos of 60 RECORDS, each of which shares one NUMBER. */
+    private static int[][] allWithSharedOne() {
+        int[][] twos = new int[100][];
+        for (int i = 0; i < 100; i++) {
+            twos[i] = i < 59 ? set(0, i + 1, 1) : set(1, i - 57, 1);
+        }
+        return twos;
     }
 
     private static void promise3Drop() {
@@ -479,6 +520,20 @@ public final class PromiseTests {
         is("both", x.like(0, 1, 0), 2);
         is("the frequencies stay", x.frequency(8), 2);
         is("frequency(24)", x.frequency(24), 0);
+    }
+
+    private static void promise9TextJoinsFamilies() {
+        DUE.about("promise 9, families");
+        PairSieve x = with(set(8), set(16));
+        is("chain(0, 1)", x.chain(0, 1), NONE);
+        x.feed(0x01000000, 0, 0, 0, 0);
+        x.end(1);
+        x.text(1, 1);
+        is("chain(0, 1)", x.chain(0, 1), 1);
+        is("count(8)", x.count(8), 1);
+        x.text(0, 1);
+        is("chain(0, 1)", x.chain(0, 1), NONE);
+        is("core(1)", x.core(1), 1);
     }
 
     private static void promise10Measure() {

@@ -953,15 +953,16 @@ public final class PairSieve {
             return NONE;
         }
 
-        /** Every friend of r that is a step nearer to s begins a shortest CHAIN, so the least begins the first one. */
+        /**
+         * Every friend of r that is a step nearer to s begins a shortest CHAIN, so the least begins the first one. No
+         * friend of r is nearer still, so those that fewer steps reach, too, need not be left out on the way.
+         */
         int firstStep(int r, int s, int steps) {
-            long seen = 1L << s;
-            long edge = seen;
+            long reached = 1L << s;
             for (int step = 1; step < steps; step++) {
-                edge = friendsOf(edge) & ~seen;
-                seen |= edge;
+                reached = friendsOf(reached);
             }
-            return leastOf(edge & friends[r]);
+            return leastOf(reached & friends[r]);
         }
 
         long coreOf(long family) {
