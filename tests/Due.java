@@ -15,8 +15,20 @@ final class Due {
     }
 
     void is(String call, long got, long want) {
+        compare(call, got == want, String.valueOf(got), String.valueOf(want));
+    }
+
+    void is(String call, boolean got, boolean want) {
+        is(call, got ? 1 : 0, want ? 1 : 0);
+    }
+
+    void is(String call, String got, String want) {
+        compare(call, got.equals(want), got, want);
+    }
+
+    private void compare(String call, boolean alike, String got, String want) {
         compared++;
-        if (got != want) {
+        if (!alike) {
             wrong++;
             if (wrong <= MOST_TOLD) {
                 System.out.println(about + ": " + call + " answered " + got + ", due is " + want);
@@ -24,8 +36,8 @@ final class Due {
         }
     }
 
-    void is(String call, boolean got, boolean want) {
-        is(call, got ? 1 : 0, want ? 1 : 0);
+    int compared() {
+        return compared;
     }
 
     int wrong() {

@@ -1,11 +1,5 @@
 /** One test for each promise of the document: ordinary inputs, the edges that it names, wrong inputs. */
-public final class PromiseTests {
-    private static final int NONE = PairSieve.NONE;
-    private static final int LOW = Integer.MIN_VALUE;
-    private static final int HIGH = Integer.MAX_VALUE;
-
-    private static final Due DUE = new Due();
-
+public final class PromiseTests extends Bench {
     private PromiseTests() {
     }
 
@@ -52,87 +46,6 @@ public final class PromiseTests {
         promise23Next();
         promise24Count();
         DUE.close();
-    }
-
-    /** An object with these RECORDS. */
-    private static PairSieve with(int[]... sets) {
-        PairSieve x = new PairSieve();
-        for (int[] set : sets) {
-            add(x, set);
-        }
-        return x;
-    }
-
-    private static int add(PairSieve x, int... numbers) {
-        int r = x.record();
-        for (int v : numbers) {
-            is("put(" + r + ", " + v + ")", x.put(r, v), true);
-        }
-        return r;
-    }
-
-    private static int[] set(int... numbers) {
-        return numbers;
-    }
-
-    private static int[] range(int from, int many) {
-        int[] numbers = new int[many];
-        for (int i = 0; i < many; i++) {
-            numbers[i] = from + i;
-        }
-        return numbers;
-    }
-
-    /** An object whose RECORDS are PAIRS just where an edge stands: each edge is a NUMBER that its two share. */
-    private static PairSieve net(int records, int[]... edges) {
-        PairSieve x = new PairSieve();
-        for (int r = 0; r < records; r++) {
-            x.record();
-        }
-        x.measure(0, 1, 1);
-        for (int e = 0; e < edges.length; e++) {
-            x.put(edges[e][0], e);
-            x.put(edges[e][1], e);
-        }
-        return x;
-    }
-
-    private static int[] edge(int r, int s) {
-        return new int[] {r, s};
-    }
-
-    private static void is(String call, long got, long want) {
-        DUE.is(call, got, want);
-    }
-
-    private static void is(String call, boolean got, boolean want) {
-        DUE.is(call, got, want);
-    }
-
-    private static void row(String what, PairSieve x, int r, int... numbers) {
-        is(what + ": about(" + r + ", 0)", x.about(r, 0), numbers.length);
-        for (int i = 0; i < numbers.length; i++) {
-            is(what + ": at(" + r + ", " + i + ")", x.at(r, i), numbers[i]);
-        }
-        is(what + ": at behind the last", x.at(r, numbers.length), NONE);
-    }
-
-    private static void kept(String what, PairSieve x, int[]... pairs) {
-        is(what + ": count(13)", x.count(13), pairs.length);
-        for (int i = 0; i < pairs.length; i++) {
-            for (int part = 0; part < 3; part++) {
-                is(what + ": pair(" + i + ", " + part + ")", Due.pair(x, i, part), pairs[i][part]);
-            }
-        }
-        is(what + ": pair behind the last", Due.pair(x, pairs.length, 0), Due.THROWN);
-    }
-
-    private static void keptCore(String what, PairSieve x, int... records) {
-        for (int i = 0; i < records.length; i++) {
-            is(what + ": member(" + i + ")", x.member(i), records[i]);
-        }
-        is(what + ": member behind the last", x.member(records.length), NONE);
-        is(what + ": member(-1)", x.member(-1), NONE);
     }
 
     private static void promise1NewObject() {
@@ -586,24 +499,6 @@ public final class PromiseTests {
         is("count(1)", z.count(1), 1800);
     }
 
-    /** 60 RECORDS of 30 NUMBERS, no two of which are like: r, 100, r, 101, and so on, in pieces of two bytes. */
-    private static PairSieve manyNumbers() {
-        PairSieve x = new PairSieve();
-        for (int r = 0; r < 60; r++) {
-            x.record();
-            int[] words = new int[10];
-            for (int i = 0; i < 31; i++) {
-                int sign = i % 2 == 0 ? r : 100 + i / 2;
-                words[i / 4] |= sign << 24 - 8 * (i % 4);
-            }
-            x.feed(words[0], words[1], words[2], words[3], words[4]);
-            x.feed(words[5], words[6], words[7], words[8], words[9]);
-            x.end(31);
-            is("text", x.text(r, 2), 30);
-        }
-        return x;
-    }
-
     private static void promise12Frequency() {
         DUE.about("promise 12");
         PairSieve x = with(set(0, 5, 999999), set(5, 999999), set(5));
@@ -715,14 +610,6 @@ public final class PromiseTests {
         row("a new one first", x, 2, 0, 10);
     }
 
-    private static void likeIs(PairSieve x, String what, long shared, long needed, long above, long below, long pair) {
-        long[] dues = {shared, needed, above, below, pair};
-        for (int part = 0; part < 5; part++) {
-            is(what + ": like(0, 1, " + part + ")", x.like(0, 1, part), dues[part]);
-            is(what + ": like(1, 0, " + part + ")", x.like(1, 0, part), dues[part]);
-        }
-    }
-
     private static void promise15LikeOfEachMeasure() {
         DUE.about("promise 15");
         PairSieve x = with(range(0, 9), range(5, 6), set(50));
@@ -815,11 +702,6 @@ public final class PromiseTests {
         is("below", x.like(0, 1, 3), 900);
     }
 
-    private static void whyIs(PairSieve x, int r, int s, int fate) {
-        is("why(" + r + ", " + s + ")", x.why(r, s), fate);
-        is("why(" + s + ", " + r + ")", x.why(s, r), fate);
-    }
-
     private static void promise16Why() {
         DUE.about("promise 16");
         PairSieve x = with(set(1, 2, 5, 6), set(3, 4, 5, 6), set(1, 7, 8, 9), set(2, 3, 4, 6), set(1), set(),
@@ -908,12 +790,6 @@ public final class PromiseTests {
         y.measure(5, 1, 2);
         is("NEEDED", y.like(0, 1, 1), 5);
         whyIs(y, 0, 1, 2);
-    }
-
-    private static void counts(PairSieve x, int... twoToSeven) {
-        for (int i = 0; i < twoToSeven.length; i++) {
-            is("count(" + (i + 2) + ")", x.count(i + 2), twoToSeven[i]);
-        }
     }
 
     private static void promise17Pairs() {
