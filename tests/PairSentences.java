@@ -201,6 +201,18 @@ final class PairSentences extends Bench {
         kept("WEIGHTED, 28 / 29 and 29 / 31", x, set(0, 1, 28), set(2, 3, 2813));
     }
 
+    @Sentence(promise = 19, words = TOP, part = "the likest first")
+    static void eachOneIsLikerThanAllAheadOfIt() {
+        PairSieve x = with(set(1, 2, 3), set(3, 4, 5), set(11, 12, 13), set(12, 13, 14), set(21, 22, 23), set(22, 23),
+            set(31), set(31));
+        is("top(4)", x.top(4), 4);
+        kept("four", x, set(6, 7, 1), set(4, 5, 2), set(2, 3, 2), set(0, 1, 1));
+        is("top(3)", x.top(3), 3);
+        kept("three", x, set(6, 7, 1), set(4, 5, 2), set(2, 3, 2));
+        is("top(5)", x.top(5), 4);
+        kept("four", x, set(6, 7, 1), set(4, 5, 2), set(2, 3, 2), set(0, 1, 1));
+    }
+
     @Sentence(promise = 19, words = TOP, part = "they are kept in place of the PAIRS")
     static void theyAreKeptInPlaceOfThePairs() {
         PairSieve x = with(set(1, 2, 3), set(1, 2, 3), set(1, 2, 4), set(3));

@@ -394,7 +394,10 @@ final class PlainModel {
     }
 
     private TreeSet<Integer> family(int r) {
-        int[][] steps = distances();
+        return family(distances(), r);
+    }
+
+    private TreeSet<Integer> family(int[][] steps, int r) {
         TreeSet<Integer> family = new TreeSet<>();
         for (int s = 0; s < records.size(); s++) {
             if (is(s) && steps[r][s] >= 0) {
@@ -515,10 +518,11 @@ final class PlainModel {
     }
 
     private int families() {
+        int[][] steps = distances();
         Set<Integer> least = new HashSet<>();
         for (int r = 0; r < records.size(); r++) {
             if (is(r)) {
-                least.add(family(r).first());
+                least.add(family(steps, r).first());
             }
         }
         return least.size();
