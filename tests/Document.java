@@ -4,12 +4,13 @@ import java.nio.file.Path;
 import java.util.ArrayList;
 import java.util.List;
 
-/** The sentences of DOC.md, each with the promise under which it stands; 0 for what stands under none. */
+/** The face that DOC.md shows, and its sentences, each with the promise under which it stands; 0: under none. */
 final class Document {
     static final int PROMISES = 24;
     private static final Path DOC = Path.of("../shared/DOC.md");
 
     private final List<List<String>> sentences = new ArrayList<>();
+    private final List<String> face = new ArrayList<>();
 
     private Document() {
         for (int promise = 0; promise <= PROMISES; promise++) {
@@ -28,7 +29,9 @@ final class Document {
                 tells = !line.equals("## Not promised");
             } else if (line.startsWith("```")) {
                 isJava = line.equals("```java");
-            } else if (tells && !isJava) {
+            } else if (isJava) {
+                document.face.add(line.strip());
+            } else if (tells) {
                 document.add(promise, line.strip());
             }
         }
@@ -42,6 +45,11 @@ final class Document {
                 sentences.get(promise).add(sentence);
             }
         }
+    }
+
+    /** The lines of the class as the document has it, without bodies. */
+    List<String> face() {
+        return face;
     }
 
     List<String> of(int promise) {
